@@ -29,16 +29,12 @@ public final class OddsSolver {
     private static final int OBSERVE = 5;
     private static final int STOP = 6;
 
-    private final int[] tape;
-    private int taped;
     private final Reader reader;
     private int faultPlace;
     private Program program;
-    private Program spare;
     private int firstValues;
     private final Changes changes;
     private final Graph graph;
-    private boolean explored;
     private final Equations equations;
     private final Spread spread;
     private final Lumps lumps;
@@ -46,11 +42,9 @@ public final class OddsSolver {
     private final int[] refused;
 
     public OddsSolver() {
-        tape = new int[MOST_BYTES];
+        reader = new Reader();
         faultPlace = NONE;
         program = new Program();
-        spare = new Program();
-        reader = new Reader(tape, spare);
         changes = new Changes();
         graph = new Graph();
         equations = new Equations();
@@ -61,33 +55,28 @@ public final class OddsSolver {
     }
 
     public int feed(int a, int b, int c, int d, int e) {
-        if (taped + FED_BYTES > MOST_BYTES) {
+        if (reader.taped + FED_BYTES > MOST_BYTES) {
             return NONE;
         }
-        putOnTape(a);
-        putOnTape(b);
-        putOnTape(c);
-        putOnTape(d);
-        putOnTape(e);
-        return taped;
+        reader.put(a);
+        reader.put(b);
+        reader.put(c);
+        reader.put(d);
+        reader.put(e);
+        return reader.taped;
     }
 
     public int text(int n) throws IllegalArgumentException {
-        if (n < 0 || n > taped) {
-            refuseArgument();
-        }
-        int found = reader.read(n, spare);
-        taped = 0;
+        needNumber(n, 0, reader.taped);
+        int found = reader.read(n);
         faultPlace = reader.faultPlace();
         if (found != 0) {
             return found - 10;
         }
-        Program told = spare;
-        spare = program;
-        program = told;
+        program = reader.exchange(program);
         firstValues = 0;
         changes.clear();
-        explored = false;
+        graph.forget();
         return program.count;
     }
 
@@ -101,7 +90,7 @@ public final class OddsSolver {
         int was = Digits.get(firstValues, v);
         changes.keep(v, was);
         firstValues = Digits.put(firstValues, v, x);
-        explored = false;
+        graph.forget();
         return was;
     }
 
@@ -114,7 +103,7 @@ public final class OddsSolver {
         int was = program.numbers[statement];
         changes.keep(VARIABLES + statement, was);
         program.numbers[statement] = n;
-        explored = false;
+        graph.forget();
         return was;
     }
 
@@ -130,7 +119,7 @@ public final class OddsSolver {
         } else if (where - VARIABLES < MOST_STATEMENTS) {
             program.numbers[where - VARIABLES] = was;
         }
-        explored = false;
+        graph.forget();
         return changes.count;
     }
 
@@ -140,12 +129,12 @@ public final class OddsSolver {
             return program.count;
         }
         if (what == 6) {
-            return taped;
+            return reader.taped;
         }
         if (what == 7) {
             return changes.count;
         }
-        explore();
+        graph.explore(program, firstValues);
         if (graph.tooMany) {
             return NONE;
         }
@@ -224,15 +213,14 @@ public final class OddsSolver {
         if (!equations.solve(graph)) {
             return UNSOLVED;
         }
-        int ended = equations.ended(graph);
-        int broken = equations.broken(graph);
-        if (what == 0) {
-            return Field.inForm(ended, form);
+        switch (what) {
+            case 0:
+                return Field.inForm(equations.ended, form);
+            case 1:
+                return Field.inForm(equations.broken, form);
+            default:
+                return Field.inForm(equations.forEver(), form);
         }
-        if (what == 1) {
-            return Field.inForm(broken, form);
-        }
-        return Field.inForm(Field.less(Field.less(1, ended), broken), form);
     }
 
     public int value(int v, int x, int form)
@@ -263,7 +251,10 @@ public final class OddsSolver {
         needVariable(v);
         needForm(form);
         needEnd();
-        return shareOfEndedInForm(equations.solve(graph) ? equations.valuesTogether(graph, v) : 0, form);
+        if (!equations.canDivide(graph)) {
+            return UNSOLVED;
+        }
+        return Field.inForm(equations.shareOfEnded(equations.valuesTogether(graph, v)), form);
     }
 
     public int independent(int v, int w) throws IllegalStateException, NoSuchElementException {
@@ -271,7 +262,7 @@ public final class OddsSolver {
         needVariable(v);
         needVariable(w);
         needEnd();
-        if (!equations.solve(graph) || equations.ended(graph) == 0) {
+        if (!equations.canDivide(graph)) {
             return UNSOLVED;
         }
         return equations.areIndependent(graph, v, w) ? 1 : 0;
@@ -300,7 +291,7 @@ public final class OddsSolver {
         if (!equations.solve(graph)) {
             return UNSOLVED;
         }
-        return Field.inForm(equations.stepsTogether(), form);
+        return Field.inForm(equations.steps, form);
     }
 
     public int within(int n, int form) throws IllegalStateException, IllegalArgumentException {
@@ -344,7 +335,7 @@ public final class OddsSolver {
     }
 
     public long print() {
-        explore();
+        graph.explore(program, firstValues);
         long sum = 0;
         for (int i = 0; i < graph.count && !graph.tooMany; i++) {
             sum = 31 * sum + graph.places[i];
@@ -357,27 +348,8 @@ public final class OddsSolver {
         return what >= 0 && what < refused.length ? refused[what] : NONE;
     }
 
-    private void putOnTape(int number) {
-        for (int shift = 24; shift >= 0 && taped < MOST_BYTES; shift -= 8) {
-            tape[taped] = number >> shift & 255;
-            taped++;
-        }
-    }
-
-    private void explore() {
-        if (explored) {
-            return;
-        }
-        graph.explore(program, firstValues);
-        equations.forget();
-        spread.forget();
-        lumps.forget();
-        likeliest.forget();
-        explored = true;
-    }
-
     private void needStates() {
-        explore();
+        graph.explore(program, firstValues);
         if (graph.tooMany) {
             refuseState();
         }
@@ -433,18 +405,10 @@ public final class OddsSolver {
     }
 
     private int coupleInForm(int v, int x, int w, int y, int form) {
-        return shareOfEndedInForm(equations.solve(graph) ? equations.coupleTogether(graph, v, x, w, y) : 0, form);
-    }
-
-    private int shareOfEndedInForm(int part, int form) {
-        if (!equations.solve(graph)) {
+        if (!equations.canDivide(graph)) {
             return UNSOLVED;
         }
-        int ended = equations.ended(graph);
-        if (ended == 0) {
-            return UNSOLVED;
-        }
-        return Field.inForm(Field.times(part, Field.inverse(ended)), form);
+        return Field.inForm(equations.shareOfEnded(equations.coupleTogether(graph, v, x, w, y)), form);
     }
 
     /** All VARIABLES as one number, a first: it names a STATE together with its PLACE, and print() asks for it. */
@@ -479,8 +443,8 @@ public final class OddsSolver {
             return (int) ((long) a * b % P);
         }
 
-        static int odds(int sixtieths) {
-            return times(sixtieths, INVERSE_OF_60);
+        static int sixtieth(int a) {
+            return times(a, INVERSE_OF_60);
         }
 
         static int inverse(int a) {
@@ -574,7 +538,7 @@ public final class OddsSolver {
         final int[] near = new int[MOST_STATEMENTS];
         final int[] far = new int[MOST_STATEMENTS];
         private final int[] owners = new int[MOST_STATEMENTS];
-        private final int[] nexts = new int[MOST_STATEMENTS];
+        private final int[] behind = new int[MOST_STATEMENTS];
 
         void clear() {
             count = 0;
@@ -584,10 +548,20 @@ public final class OddsSolver {
             return count >= MOST_STATEMENTS;
         }
 
-        /** There is room for one more: isFull() is asked first. */
-        int begin(int kind, int owner) {
+        /**
+         * There is room for one more: isFull() is asked first. Until link() near and far are the first STATEMENTS of the
+         * BLOCKS, NONE of an empty one, and behind the one that follows in the same BLOCK.
+         */
+        int begin(int kind, int owner, int before, boolean inElse) {
             int s = count;
             count++;
+            if (before != NONE) {
+                behind[before] = s;
+            } else if (owner != NONE && inElse) {
+                far[owner] = s;
+            } else if (owner != NONE) {
+                near[owner] = s;
+            }
             kinds[s] = kind;
             variables[s] = NONE;
             numbers[s] = NONE;
@@ -597,48 +571,43 @@ public final class OddsSolver {
             near[s] = NONE;
             far[s] = NONE;
             owners[s] = owner;
-            nexts[s] = NONE;
+            behind[s] = NONE;
             return s;
-        }
-
-        void follow(int s, int next) {
-            nexts[s] = next;
         }
 
         static int sum(int first, int sign, int second) {
             return first + 16 * second + 256 * sign;
         }
 
-        /** Until now near and far are the first STATEMENTS of the BLOCKS, NONE of an empty one. */
         void link() {
             for (int s = 0; s < count; s++) {
-                nexts[s] = placeBehind(s);
+                behind[s] = placeBehind(s);
             }
             for (int s = 0; s < count; s++) {
                 int kind = kinds[s];
                 if (kind == STOP) {
                     near[s] = count;
                 } else if (near[s] == NONE) {
-                    near[s] = kind == WHILE ? s : nexts[s];
+                    near[s] = kind == WHILE ? s : behind[s];
                 }
                 if (kind == OBSERVE) {
                     far[s] = count + 1;
                 } else if (far[s] == NONE && (kind == FLIP || kind == IF || kind == WHILE)) {
-                    far[s] = nexts[s];
+                    far[s] = behind[s];
                 }
             }
         }
 
         /** An owner has the lesser number, so what is behind it is known already. */
         private int placeBehind(int s) {
-            if (nexts[s] != NONE) {
-                return nexts[s];
+            if (behind[s] != NONE) {
+                return behind[s];
             }
             int owner = owners[s];
             if (owner == NONE) {
                 return count;
             }
-            return kinds[owner] == WHILE ? owner : nexts[owner];
+            return kinds[owner] == WHILE ? owner : behind[owner];
         }
 
         int assigned(int s, int values) {
@@ -655,21 +624,26 @@ public final class OddsSolver {
         }
 
         private static int sumOf(int sum, int values) {
-            int first = termOf(sum & 15, values);
-            int second = termOf(sum >> 4 & 15, values);
+            int first = sum & 15;
+            int second = sum >> 4 & 15;
             int sign = sum >> 8;
+            if (first >= VALUES) {
+                first = Digits.get(values, first - VALUES);
+            }
+            if (second >= VALUES) {
+                second = Digits.get(values, second - VALUES);
+            }
             if (sign == PLUS) {
                 return (first + second) % VALUES;
             }
             return sign == MINUS ? (first + VALUES - second) % VALUES : first;
         }
-
-        private static int termOf(int term, int values) {
-            return term < VALUES ? term : Digits.get(values, term - VALUES);
-        }
     }
 
-    /** Reads a text into a Program. Behind a FAULT nothing is read further, so the first one stays. */
+    /**
+     * The TAPE, and what reads it into a Program of its own, the draft: so a FAULT leaves the other one as it is. Behind
+     * a FAULT nothing is read further, so the first one stays. Block 0 is the whole text.
+     */
     private static final class Reader {
         private static final int NOTHING = 0;
         private static final int WORD = 1;
@@ -677,39 +651,61 @@ public final class OddsSolver {
         private static final int SIGN = 3;
         private static final int LARGE = 1000;
 
-        private final int[] bytes;
+        int taped;
+        private final int[] bytes = new int[MOST_BYTES];
+        private Program draft = new Program();
         private int length;
-        private Program program;
         private int token;
         private int from;
         private int to;
         private int number;
         private int fault;
-        private int place;
+        private int place = NONE;
+        private int depth;
+        private final int[] owners = new int[MOST_BLOCKS + 1];
+        private final int[] latest = new int[MOST_BLOCKS + 1];
+        private final boolean[] isElse = new boolean[MOST_BLOCKS + 1];
 
-        Reader(int[] tape, Program into) {
-            bytes = tape;
-            program = into;
+        void put(int four) {
+            for (int shift = 24; shift >= 0 && taped < MOST_BYTES; shift -= 8) {
+                bytes[taped] = four >> shift & 255;
+                taped++;
+            }
         }
 
-        /** The FAULT, 0 without one. */
-        int read(int n, Program into) {
-            length = Math.min(n, bytes.length);
-            program = into;
+        /** The FAULT, 0 without one; the TAPE is empty then. */
+        int read(int n) {
+            length = Math.min(n, taped);
+            taped = 0;
             to = 0;
             fault = 0;
             place = NONE;
-            program.clear();
+            depth = 0;
+            owners[0] = NONE;
+            latest[0] = NONE;
+            draft.clear();
             goOn();
-            readStatements(NONE, 0);
+            for (int round = 0; round <= length && fault == 0 && (depth > 0 || token != NOTHING); round++) {
+                if (depth > 0 && isSign('}')) {
+                    closeBlock();
+                } else {
+                    readStatement();
+                }
+            }
             if (fault == 0) {
-                program.link();
+                draft.link();
             }
             return fault;
         }
 
         int faultPlace() {
             return place;
+        }
+
+        Program exchange(Program old) {
+            Program read = draft;
+            draft = old;
+            return read;
         }
 
         private void fail(int kind) {
@@ -719,38 +715,31 @@ public final class OddsSolver {
             }
         }
 
+        /** To the next word, number or sign; not beyond a FAULT. */
         private void goOn() {
+            if (fault != 0) {
+                return;
+            }
             from = to;
             while (from < length && bytes[from] == ' ') {
                 from++;
             }
             to = from;
             number = 0;
-            if (from >= length) {
-                token = NOTHING;
-            } else if (isLetter(from)) {
+            token = NOTHING;
+            while (to < length && bytes[to] >= 'a' && bytes[to] <= 'z') {
                 token = WORD;
-                while (to < length && isLetter(to)) {
-                    to++;
-                }
-            } else if (isDigit(from)) {
+                to++;
+            }
+            while (token != WORD && to < length && bytes[to] >= '0' && bytes[to] <= '9') {
                 token = NUMBER;
-                while (to < length && isDigit(to)) {
-                    number = Math.min(LARGE, 10 * number + bytes[to] - '0');
-                    to++;
-                }
-            } else {
+                number = Math.min(LARGE, 10 * number + bytes[to] - '0');
+                to++;
+            }
+            if (token == NOTHING && to < length) {
                 token = SIGN;
                 to++;
             }
-        }
-
-        private boolean isLetter(int at) {
-            return bytes[at] >= 'a' && bytes[at] <= 'z';
-        }
-
-        private boolean isDigit(int at) {
-            return bytes[at] >= '0' && bytes[at] <= '9';
         }
 
         private boolean isSign(int sign) {
@@ -795,97 +784,84 @@ public final class OddsSolver {
             return isWord("stop") ? STOP : NONE;
         }
 
-        /** Up to the sign that closes the BLOCK, outside all BLOCKS to the end of the text: the first one, or NONE. */
-        private int readStatements(int owner, int depth) {
-            int first = NONE;
-            int latest = NONE;
-            for (int round = 0; round <= MOST_STATEMENTS && fault == 0; round++) {
-                if (depth == 0 ? token == NOTHING : isSign('}')) {
-                    return first;
-                }
-                int s = readStatement(owner, depth);
-                if (latest == NONE) {
-                    first = s;
-                } else {
-                    program.follow(latest, s);
-                }
-                latest = s;
-            }
-            return first;
-        }
-
-        private int readStatement(int owner, int depth) {
+        /** Of one with a BLOCK up to its opening sign. */
+        private void readStatement() {
             int kind = kindHere();
             if (kind == NONE) {
                 fail(1);
-                return NONE;
+                return;
             }
-            if (program.isFull()) {
+            if (draft.isFull()) {
                 fail(3);
-                return NONE;
+                return;
             }
-            int s = program.begin(kind, owner);
+            int s = draft.begin(kind, owners[depth], latest[depth], isElse[depth]);
+            latest[depth] = s;
             if (kind == ASSIGN) {
-                program.variables[s] = readVariable();
+                draft.variables[s] = readVariable();
                 readSign('=');
-                program.lefts[s] = readSum();
+                draft.lefts[s] = readSum();
             } else {
                 goOn();
-                readBehindWord(s, kind, depth);
-            }
-            if (kind == ASSIGN || kind == DRAW || kind == OBSERVE || kind == STOP) {
-                readSign(';');
-            }
-            return s;
-        }
-
-        private void readBehindWord(int s, int kind, int depth) {
-            if (kind == DRAW) {
-                program.variables[s] = readVariable();
-                program.numbers[s] = readNumber(DRAW);
-            } else if (kind == FLIP) {
-                program.numbers[s] = readNumber(FLIP);
-            } else if (kind != STOP) {
-                readTest(s);
+                readBehindWord(s, kind);
             }
             if (kind == FLIP || kind == IF || kind == WHILE) {
-                program.near[s] = readBlock(s, depth);
-            }
-            if ((kind == FLIP || kind == IF) && fault == 0 && isWord("else")) {
-                goOn();
-                program.far[s] = readBlock(s, depth);
+                openBlock(s, false);
+            } else {
+                readSign(';');
             }
         }
 
-        private int readBlock(int owner, int depth) {
+        private void readBehindWord(int s, int kind) {
+            if (kind == DRAW) {
+                draft.variables[s] = readVariable();
+                draft.numbers[s] = readNumber(kind);
+            } else if (kind == FLIP) {
+                draft.numbers[s] = readNumber(kind);
+            } else if (kind != STOP) {
+                draft.lefts[s] = readSum();
+                draft.relations[s] = readRelation();
+                draft.rights[s] = readSum();
+            }
+        }
+
+        private void openBlock(int owner, boolean other) {
             if (isSign('{') && depth >= MOST_BLOCKS) {
                 fail(3);
             }
             readSign('{');
-            if (fault != 0) {
-                return NONE;
+            if (fault == 0) {
+                depth++;
+                owners[depth] = owner;
+                latest[depth] = NONE;
+                isElse[depth] = other;
             }
-            int first = readStatements(owner, depth + 1);
-            readSign('}');
-            return first;
         }
 
-        private void readTest(int s) {
-            program.lefts[s] = readSum();
-            if (fault == 0) {
-                if (isSign('=') || isSign('<') || isSign('#')) {
-                    program.relations[s] = bytes[from];
-                    goOn();
-                } else {
-                    fail(1);
-                }
+        private void closeBlock() {
+            int owner = owners[depth];
+            boolean mayGoOn = !isElse[depth] && draft.kinds[owner] != WHILE;
+            depth--;
+            goOn();
+            if (mayGoOn && isWord("else")) {
+                goOn();
+                openBlock(owner, true);
             }
-            program.rights[s] = readSum();
+        }
+
+        private int readRelation() {
+            if (!isSign('=') && !isSign('<') && !isSign('#')) {
+                fail(1);
+                return 0;
+            }
+            int relation = bytes[from];
+            goOn();
+            return relation;
         }
 
         private int readSum() {
             int first = readTerm();
-            if (fault != 0 || !isSign('+') && !isSign('-')) {
+            if (!isSign('+') && !isSign('-')) {
                 return first;
             }
             int sign = isSign('+') ? Program.PLUS : Program.MINUS;
@@ -899,9 +875,6 @@ public final class OddsSolver {
 
         private int readVariable() {
             int v = variableHere();
-            if (fault != 0) {
-                return 0;
-            }
             if (v == NONE) {
                 fail(1);
                 return 0;
@@ -911,15 +884,18 @@ public final class OddsSolver {
         }
 
         private int readNumber(int kind) {
-            if (fault != 0) {
-                return 0;
-            }
+            int read = number;
             if (token != NUMBER) {
                 fail(1);
                 return 0;
             }
-            int read = number;
-            if (!isSuch(read, kind)) {
+            boolean isSuch = read < VALUES;
+            if (kind == FLIP) {
+                isSuch = read <= WHOLE;
+            } else if (kind == DRAW) {
+                isSuch = read >= 2 && read <= 6 || read == 10;
+            }
+            if (!isSuch) {
                 fail(2);
                 return 0;
             }
@@ -927,20 +903,7 @@ public final class OddsSolver {
             return read;
         }
 
-        private static boolean isSuch(int number, int kind) {
-            if (kind == FLIP) {
-                return number <= WHOLE;
-            }
-            if (kind == DRAW) {
-                return number >= 2 && number <= 6 || number == 10;
-            }
-            return number < VALUES;
-        }
-
         private void readSign(int sign) {
-            if (fault != 0) {
-                return;
-            }
             if (isSign(sign)) {
                 goOn();
             } else {
@@ -953,6 +916,9 @@ public final class OddsSolver {
     private static final class Graph {
         private static final int SLOTS = 512;
 
+        /** One more with each exploring: what was found out for another version is of no use any more. */
+        int version;
+        private boolean fresh;
         int count;
         int arcs;
         int ends;
@@ -968,7 +934,16 @@ public final class OddsSolver {
         final int[] shares = new int[MOST_ARCS];
         private final int[] slots = new int[SLOTS];
 
+        void forget() {
+            fresh = false;
+        }
+
         void explore(Program program, int firstValues) {
+            if (fresh) {
+                return;
+            }
+            fresh = true;
+            version++;
             count = 0;
             arcs = 0;
             tooMany = false;
@@ -1101,12 +1076,12 @@ public final class OddsSolver {
 
     /** VISITS. Only STATES with ARCS that are not TRAPPED are unknowns: nothing leads on from the others. */
     private static final class Equations {
-        private static final int FRESH = 0;
-        private static final int GOOD = 1;
-        private static final int BAD = 2;
-
+        int ended;
+        int broken;
+        int steps;
         final int[] visited = new int[MOST_STATES];
-        private int known = FRESH;
+        private int version;
+        private boolean solved;
         private int size;
         private final int[] unknowns = new int[MOST_STATES];
         private final int[] ranks = new int[MOST_STATES];
@@ -1118,21 +1093,31 @@ public final class OddsSolver {
         /** Made when first needed: it is far larger than all else, and many objects never need it. */
         private int[] cells;
 
-        void forget() {
-            known = FRESH;
-        }
-
         /** Whether there is just one solution. */
         boolean solve(Graph graph) {
-            if (known == FRESH) {
+            if (version != graph.version) {
+                version = graph.version;
                 write(graph);
-                known = eliminate() ? GOOD : BAD;
-                if (known == GOOD) {
+                solved = eliminate();
+                if (solved) {
                     substitute();
                     passOn(graph);
+                    addUp(graph);
                 }
             }
-            return known == GOOD;
+            return solved;
+        }
+
+        boolean canDivide(Graph graph) {
+            return solve(graph) && ended != 0;
+        }
+
+        int shareOfEnded(int part) {
+            return Field.times(part, Field.inverse(ended));
+        }
+
+        int forEver() {
+            return Field.less(Field.less(1, ended), broken);
         }
 
         private void write(Graph graph) {
@@ -1166,7 +1151,7 @@ public final class OddsSolver {
                 int rank = ranks[graph.targets[k]];
                 if (rank != NONE) {
                     int cell = rows[rank] + r;
-                    cells[cell] = Field.less(cells[cell], Field.odds(graph.shares[k]));
+                    cells[cell] = Field.less(cells[cell], Field.sixtieth(graph.shares[k]));
                 }
             }
         }
@@ -1237,42 +1222,29 @@ public final class OddsSolver {
             }
             for (int r = 0; r < size; r++) {
                 int i = unknowns[r];
+                int sixtieth = Field.sixtieth(visited[i]);
                 for (int k = graph.arcsFrom[i]; k < graph.arcsFrom[i + 1]; k++) {
                     int target = graph.targets[k];
                     if (!graph.trapped[target] && ranks[target] == NONE) {
-                        int come = Field.times(visited[i], Field.odds(graph.shares[k]));
-                        visited[target] = Field.plus(visited[target], come);
+                        visited[target] = Field.plus(visited[target], Field.times(sixtieth, graph.shares[k]));
                     }
                 }
             }
         }
 
-        int ended(Graph graph) {
-            int sum = 0;
+        private void addUp(Graph graph) {
+            ended = 0;
+            broken = 0;
+            steps = 0;
             for (int i = 0; i < graph.count; i++) {
                 if (graph.isEnd(i)) {
-                    sum = Field.plus(sum, visited[i]);
+                    ended = Field.plus(ended, visited[i]);
+                } else if (graph.isBroken(i)) {
+                    broken = Field.plus(broken, visited[i]);
+                } else {
+                    steps = Field.plus(steps, visited[i]);
                 }
             }
-            return sum;
-        }
-
-        int broken(Graph graph) {
-            int sum = 0;
-            for (int i = 0; i < graph.count; i++) {
-                if (graph.isBroken(i)) {
-                    sum = Field.plus(sum, visited[i]);
-                }
-            }
-            return sum;
-        }
-
-        int stepsTogether() {
-            int sum = 0;
-            for (int r = 0; r < size; r++) {
-                sum = Field.plus(sum, visited[unknowns[r]]);
-            }
-            return sum;
         }
 
         int coupleTogether(Graph graph, int v, int x, int w, int y) {
@@ -1309,7 +1281,6 @@ public final class OddsSolver {
                     seconds[y] = Field.plus(seconds[y], visited[i]);
                 }
             }
-            int ended = ended(graph);
             for (int k = 0; k < VALUES * VALUES; k++) {
                 if (Field.times(couples[k], ended) != Field.times(firsts[k / VALUES], seconds[k % VALUES])) {
                     return false;
@@ -1323,24 +1294,22 @@ public final class OddsSolver {
     private static final class Spread {
         static final int MOST_STEPS = 200;
 
-        private int done = NONE;
+        private int version;
+        private int done;
         private int[] here = new int[MOST_STATES];
         private int[] there = new int[MOST_STATES];
         private final int[] sums = new int[MOST_STEPS + 1];
 
-        void forget() {
-            done = NONE;
-        }
-
         int endedBy(Graph graph, int n) {
-            if (done == NONE) {
+            if (version != graph.version) {
+                version = graph.version;
                 Arrays.fill(here, 0);
                 here[0] = 1;
                 sums[0] = atEnd(graph);
                 done = 0;
             }
             for (int step = done + 1; step <= n && step <= MOST_STEPS; step++) {
-                goOn(graph);
+                moveOn(graph);
                 sums[step] = Field.plus(sums[step - 1], atEnd(graph));
                 done = step;
             }
@@ -1357,14 +1326,14 @@ public final class OddsSolver {
             return sum;
         }
 
-        private void goOn(Graph graph) {
+        private void moveOn(Graph graph) {
             Arrays.fill(there, 0);
             for (int i = 0; i < graph.count; i++) {
                 if (here[i] != 0) {
+                    int sixtieth = Field.sixtieth(here[i]);
                     for (int k = graph.arcsFrom[i]; k < graph.arcsFrom[i + 1]; k++) {
                         int target = graph.targets[k];
-                        int come = Field.times(here[i], Field.odds(graph.shares[k]));
-                        there[target] = Field.plus(there[target], come);
+                        there[target] = Field.plus(there[target], Field.times(sixtieth, graph.shares[k]));
                     }
                 }
             }
@@ -1380,6 +1349,7 @@ public final class OddsSolver {
         private static final int GOING_KIND = 11;
         private static final int KINDS = 12;
 
+        private final int[] versions = new int[VARIABLES];
         private final int[] counts = new int[VARIABLES];
         private final int[] labels = new int[VARIABLES * MOST_STATES];
         private final int[] now = new int[MOST_STATES];
@@ -1388,10 +1358,6 @@ public final class OddsSolver {
         private final int[] others = new int[MOST_STATES];
         private final int[] leaders = new int[MOST_STATES];
         private final int[] flows = new int[MOST_STATES];
-
-        void forget() {
-            Arrays.fill(counts, 0);
-        }
 
         int countBy(int v) {
             return counts[v];
@@ -1402,9 +1368,10 @@ public final class OddsSolver {
         }
 
         void find(Graph graph, int v) {
-            if (counts[v] != 0) {
+            if (versions[v] == graph.version) {
                 return;
             }
+            versions[v] = graph.version;
             int known = labelKinds(graph, v);
             for (int round = 0; round < MOST_STATES; round++) {
                 int found = split(graph, known);
@@ -1488,7 +1455,7 @@ public final class OddsSolver {
      * each DRAW not used), and the fewest DRAWS that reach it. What came ahead changes neither choice.
      */
     private static final class Likeliest {
-        private boolean known;
+        private int version;
         long most;
         int count;
         final int[] draws = new int[MOST_DRAWS];
@@ -1496,19 +1463,15 @@ public final class OddsSolver {
         private final long[] worths = new long[(MOST_DRAWS + 1) * MOST_STATES];
         private final int[] fewest = new int[(MOST_DRAWS + 1) * MOST_STATES];
 
-        void forget() {
-            known = false;
-        }
-
         boolean exists() {
             return most > 0;
         }
 
         void find(Graph graph, Program program) {
-            if (known) {
+            if (version == graph.version) {
                 return;
             }
-            known = true;
+            version = graph.version;
             most = 0;
             count = 0;
             for (int i = 0; i < graph.count; i++) {

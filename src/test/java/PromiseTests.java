@@ -437,6 +437,21 @@ public final class PromiseTests {
         Check.due("1 of 3600", y.total(0, 1), 1);
         Check.due("1 of 3600", y.total(0, 2), 3600);
         Check.due("3599 of 3600", y.total(1, 1), 3599);
+        // up to 20,000 of each, and no further
+        OddsSolver z = Check.solverOf("while 0=0{flip 3{flip 6{flip 6{flip 6{stop;}}}}}");
+        Check.due("visits of START", z.visits(0, 1), 20000);
+        Check.due("visits of START", z.visits(0, 2), 1);
+        Check.due("within 5", z.within(5, 0), 0);
+        Check.due("within 6", z.within(6, 2), 20000);
+        z.chance(1, 4);
+        z.chance(2, 4);
+        z.chance(3, 4);
+        z.chance(4, 10);
+        Check.due("visits of START", z.visits(0, 1), NONE);
+        Check.due("visits of START", z.visits(0, 2), NONE);
+        Check.due("visits of START", z.visits(0, 0), 20250);
+        Check.due("within 6", z.within(6, 1), NONE);
+        Check.due("within 6", z.within(6, 2), NONE);
         Check.due("no ends, no states trapped", Check.solverOf("observe 0=1;").total(1, 0), 1);
     }
 

@@ -92,6 +92,9 @@ public final class PromiseTests {
         OddsSolver x = Check.solverOf(LOOP);
         x.first(2, 5);
         x.chance(2, 10);
+        Check.due("states", x.told(1), 6);
+        Check.due("classes", x.classes(0), 6);
+        Check.due("within", x.within(1, 0), 0);
         Check.feed(x, "a=1;b=;");
         Check.noArgument("text(21)", () -> x.text(21));
         Check.noArgument("text(-1)", () -> x.text(-1));
@@ -113,8 +116,15 @@ public final class PromiseTests {
         Check.due("anew: first", x.firstOf(2), 0);
         Check.due("anew: undo", x.undo(), NONE);
         Check.due("anew: statements", x.told(0), 1);
+        Check.due("anew: states", x.told(1), 2);
+        Check.due("anew: odds", x.value(0, 1, 0), 1);
+        Check.due("anew: run", x.run(NONE), 0);
+        Check.due("anew: classes", x.classes(0), 2);
+        Check.due("anew: within", x.within(1, 0), 1);
         Check.due("text(0)", x.text(0), 0);
         Check.due("told 0", x.told(0), 0);
+        Check.due("states of none", x.told(1), 1);
+        Check.due("odds of none", x.value(0, 1, 0), 0);
     }
 
     private static void textBlanks() {
@@ -144,6 +154,8 @@ public final class PromiseTests {
         faultIs("a=b=c;", 1, 3);
         faultIs("a=cdraw b 2;", 1, 2);
         faultIs("a=-1;", 1, 2);
+        faultIs("az=1;", 1, 0);
+        faultIs("a=bz;", 1, 2);
         faultIs("a=10;", 2, 2);
         faultIs("a=b+ 12;", 2, 5);
         faultIs("a=99999999999999999999;", 2, 2);
@@ -278,6 +290,15 @@ public final class PromiseTests {
         Check.due("first, the oldest are lost", x.firstOf(1), 1);
         Check.due("chance, the oldest are lost", x.statement(0, 2), 1);
         Check.due("states as they were", x.state(0, 2), 1);
+        for (int k = 0; k < 18; k++) {
+            x.first(k % 6, k / 2);
+        }
+        for (int k = 11; k >= 0; k--) {
+            Check.due("undo", x.undo(), k);
+            Check.due("each where it was", x.firstOf(k % 6), k / 2);
+        }
+        Check.due("undo none", x.undo(), NONE);
+        Check.tell(x, "a=a;");
         x.first(0, 3);
         x.first(0, 3);
         Check.due("undo of nothing altered", x.undo(), 1);
@@ -684,6 +705,9 @@ public final class PromiseTests {
         OddsSolver x = Check.solverOf("flip 30{flip 60{}}else{a=1;}");
         Check.due("fewest", x.run(NONE), 1);
         Check.due("fewest", x.run(0), 0);
+        OddsSolver t = Check.solverOf("flip 30{a=1;}else{flip 60{}}");
+        Check.due("fewest", t.run(NONE), 1);
+        Check.due("fewest", t.run(0), 1);
         // of these the first: a draw's lesser value, a flip's 1
         OddsSolver y = Check.solverOf("flip 30{}draw a 2;");
         Check.due("1 ahead of 0", y.run(0), 1);
@@ -698,6 +722,7 @@ public final class PromiseTests {
         // what is worth more may need more draws than are left for it
         OddsSolver v = Check.solverOf("flip 1{stop;}" + "flip 60{}".repeat(10));
         Check.due("only the poor run is short enough", v.run(NONE), 1);
+        Check.due("only the poor run is short enough", v.run(0), 1);
         Check.due("worth", v.worth(), WHOLE / 60);
         OddsSolver u = Check.solverOf("flip 1{stop;}" + "flip 60{}".repeat(9));
         Check.due("the rich one fits", u.run(NONE), 10);

@@ -291,11 +291,11 @@ public final class PromiseTests {
         Check.due("chance, the oldest are lost", x.statement(0, 2), 1);
         Check.due("states as they were", x.state(0, 2), 1);
         for (int k = 0; k < 18; k++) {
-            x.first(k % 6, k / 2);
+            x.first(k % 5, k / 2);
         }
         for (int k = 11; k >= 0; k--) {
             Check.due("undo", x.undo(), k);
-            Check.due("each where it was", x.firstOf(k % 6), k / 2);
+            Check.due("each where it was", x.firstOf((k + 1) % 5), (k + 1) / 2);
         }
         Check.due("undo none", x.undo(), NONE);
         Check.tell(x, "a=a;");

@@ -1090,8 +1090,8 @@ public final class OddsSolver {
         private final int[] couples = new int[VALUES * VALUES];
         private final int[] firsts = new int[VALUES];
         private final int[] seconds = new int[VALUES];
-        /** Made when first needed: it is far larger than all else, and many objects never need it. */
-        private int[] cells;
+        /** Made with the object, though many never need it: what a call makes counts as often as there are calls. */
+        private final int[] cells = new int[MOST_STATES * (MOST_STATES + 1)];
 
         /** Whether there is just one solution. */
         boolean solve(Graph graph) {
@@ -1129,9 +1129,6 @@ public final class OddsSolver {
                     unknowns[size] = i;
                     size++;
                 }
-            }
-            if (cells == null) {
-                cells = new int[MOST_STATES * (MOST_STATES + 1)];
             }
             Arrays.fill(cells, 0, size * (size + 1), 0);
             for (int r = 0; r < size; r++) {

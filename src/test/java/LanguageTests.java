@@ -19,6 +19,7 @@ public final class LanguageTests {
             readLine(k + 1, lines.get(k).replaceAll("/\\*\\*.*|^ *\\*.*|//.*", ""));
         }
         readMethods(lines);
+        readMakers(lines);
         Check.close();
     }
 
@@ -33,6 +34,21 @@ public final class LanguageTests {
         }
         for (int k = 0; k < line.length(); k++) {
             Check.due("line " + number + " has plain signs", line.charAt(k) < 128 ? 1 : 0, 1);
+        }
+    }
+
+    /** Rows and objects are made in fields' initialisers and in the constructor alone; a call makes exceptions alone. */
+    private static void readMakers(List<String> lines) {
+        Pattern maker = Pattern.compile("\\bnew\\b|List\\.of\\b|\\bcopyOf|\\.values\\(|\\.clone\\(|\\bsubstring\\b|\\btoCharArray\\b");
+        boolean constructing = false;
+        for (int k = 0; k < lines.size(); k++) {
+            String line = lines.get(k).replaceAll("/\\*\\*.*|^ *\\*.*|//.*|\"[^\"]*\"|'.'", "");
+            constructing = line.matches("    public OddsSolver\\(\\) \\{") || constructing && !line.equals("    }");
+            boolean field = line.matches("( {4}| {8})(private |static |final )+\\w+(\\[\\])* \\w+ = new \\w+.*;");
+            boolean thrown = line.matches(" *throw new \\w+\\(.*\\);");
+            if (maker.matcher(line).find()) {
+                Check.due("line " + (k + 1) + " makes nothing in a call", field || thrown || constructing ? 1 : 0, 1);
+            }
         }
     }
 

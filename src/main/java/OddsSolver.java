@@ -733,7 +733,7 @@ public final class OddsSolver {
             }
             while (token != WORD && to < length && bytes[to] >= '0' && bytes[to] <= '9') {
                 token = NUMBER;
-                number = Math.min(LARGE, 10 * number + bytes[to] - '0');
+                number = number < LARGE ? 10 * number + bytes[to] - '0' : LARGE;
                 to++;
             }
             if (token == NOTHING && to < length) {

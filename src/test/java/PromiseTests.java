@@ -2,19 +2,7 @@
 public final class PromiseTests {
     private static final int NONE = OddsSolver.NONE;
     private static final long WHOLE = 604661760000000000L;
-    private static final String PAIR = "draw a 2;draw b 2;observe a#b;c=a+b;";
     private static final String LOOP = "a=1;while a=1{flip 30{a=0;}}";
-    private static final String TOO_MANY = "draw a 10;draw b 10;draw c 2;";
-    /** Its while is come to once more by odds that are 1 modulo P, though they are less. */
-    private static final String SINGULAR = "while 0=0{flip 59{}else{stop;}"
-            + "flip 29{flip 49{flip 16{flip 41{flip 53{}else{stop;}}else{stop;}}else{stop;}}}}";
-    /** The same, but what does not come back at once may come back later: the pivot in turn is 0, another one is not. */
-    private static final String SWAPPED = "while 0=0{flip 59{}else{stop;}flip 29{flip 49{"
-            + "flip 16{flip 41{flip 53{}else{stop;}}else{d=0;d=0;d=0;d=0;flip 30{stop;}}}"
-            + "else{d=0;d=0;d=0;d=0;d=0;flip 30{stop;}}}}}";
-    /** It ends by odds that are 0 modulo P. */
-    private static final String NO_ENDED = "flip 11{flip 13{flip 1{flip 10{flip 2{flip 2{a=1;}else{observe 0=1;}}"
-            + "else{stop;}}else{observe 0=1;}}else{stop;}}else{observe 0=1;}}else{stop;}";
 
     public static void main(String[] args) {
         newObject();
@@ -308,7 +296,7 @@ public final class PromiseTests {
     }
 
     private static void told() {
-        OddsSolver x = Check.solverOf(PAIR);
+        OddsSolver x = Check.solverOf(Programs.PAIR);
         int[] dues = {4, 12, 2, 0, 12, 4, 0, 0};
         for (int what = 0; what < 8; what++) {
             int asked = what;
@@ -325,21 +313,8 @@ public final class PromiseTests {
         // the END and BROKEN are not trapped, a state that may still leave is not
         Check.due("trapped", y.state(1, 8), 1);
         Check.due("trapped", y.state(2, 8), 0);
-        Check.due("200 states are not too many", Check.solverOf(states(200)).told(1), 200);
-        Check.due("201 states are", Check.solverOf(states(201)).told(1), NONE);
-    }
-
-    /** A program that comes to n states, from 50 on. */
-    private static String states(int n) {
-        // 1 + 6 + 36 of the draws, 6 + 1 where the values are lost again
-        int rest = n - 43 - 7;
-        StringBuilder text = new StringBuilder("draw a 6;draw b 6;");
-        for (; rest >= 36; rest -= 36) {
-            text.append("c=0;");
-        }
-        text.append("a=0;b=0;");
-        text.append("c=0;".repeat(rest));
-        return text.toString();
+        Check.due("200 states are not too many", Check.solverOf(Programs.states(200)).told(1), 200);
+        Check.due("201 states are", Check.solverOf(Programs.states(201)).told(1), NONE);
     }
 
     private static void statement() {
@@ -373,7 +348,7 @@ public final class PromiseTests {
     }
 
     private static void state() {
-        OddsSolver x = Check.solverOf(PAIR);
+        OddsSolver x = Check.solverOf(Programs.PAIR);
         int[][] dues = {
             {0, 0, 0, 0, 0, 0, 0, 0, 0, 2}, {1, 0, 0, 0, 0, 0, 0, 1, 0, 2}, {1, 1, 0, 0, 0, 0, 0, 1, 0, 2},
             {2, 0, 0, 0, 0, 0, 0, 2, 0, 1}, {2, 0, 1, 0, 0, 0, 0, 2, 0, 1}, {2, 1, 0, 0, 0, 0, 0, 2, 0, 1},
@@ -605,7 +580,7 @@ public final class PromiseTests {
     }
 
     private static void unsolved() {
-        OddsSolver x = Check.solverOf(SINGULAR);
+        OddsSolver x = Check.solverOf(Programs.SINGULAR);
         for (int form = 0; form < 3; form++) {
             Check.due("singular: total", x.total(0, form), -3);
             Check.due("singular: total", x.total(1, form), -3);
@@ -624,10 +599,10 @@ public final class PromiseTests {
         Check.due("no longer singular", x.total(0, 0), 1);
         x.undo();
         Check.due("singular again", x.total(0, 0), -3);
-        OddsSolver y = Check.solverOf(SWAPPED);
+        OddsSolver y = Check.solverOf(Programs.SWAPPED);
         Check.due("another pivot: total", y.total(0, 0), 1);
         Check.due("another pivot: for ever", y.total(2, 0), 0);
-        OddsSolver z = Check.solverOf(NO_ENDED);
+        OddsSolver z = Check.solverOf(Programs.NO_ENDED);
         for (int form = 0; form < 3; form++) {
             Check.due("ENDED is 0: value", z.value(0, 1, form), -3);
             Check.due("ENDED is 0: both", z.both(0, 0, 1, 0, form), -3);
@@ -639,7 +614,7 @@ public final class PromiseTests {
     }
 
     private static void classes() {
-        OddsSolver x = Check.solverOf(PAIR);
+        OddsSolver x = Check.solverOf(Programs.PAIR);
         int[] dues = {0, 1, 1, 2, 3, 3, 2, 4, 5, 5, 6, 6};
         Check.due("classes by c", x.classes(2), 7);
         for (int i = 0; i < dues.length; i++) {
@@ -734,7 +709,7 @@ public final class PromiseTests {
         x.first(5, 4);
         // places 0 and 1, values 000004 and 100004
         Check.due("print", x.print(), ((0L * 31 + 4) * 31 + 1) * 31 + 100004);
-        OddsSolver y = Check.solverOf(PAIR);
+        OddsSolver y = Check.solverOf(Programs.PAIR);
         long due = 0;
         for (int i = 0; i < 12; i++) {
             due = 31 * due + y.state(i, 0);
@@ -745,7 +720,7 @@ public final class PromiseTests {
             due = 31 * due + values;
         }
         Check.due("print", y.print(), due);
-        Check.due("print of too many", Check.solverOf(TOO_MANY).print(), 0);
+        Check.due("print of too many", Check.solverOf(Programs.TOO_MANY).print(), 0);
     }
 
     private static void status() {
@@ -770,7 +745,7 @@ public final class PromiseTests {
     }
 
     private static void tooMany() {
-        OddsSolver x = Check.solverOf(TOO_MANY);
+        OddsSolver x = Check.solverOf(Programs.TOO_MANY);
         Check.due("told 0", x.told(0), 3);
         for (int what = 1; what < 6; what++) {
             Check.due("told " + what, x.told(what), NONE);

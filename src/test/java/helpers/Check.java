@@ -1,22 +1,50 @@
+import java.io.IOException;
 import java.nio.charset.StandardCharsets;
+import java.nio.file.Files;
+import java.nio.file.Path;
 import java.util.function.LongSupplier;
 
 /** What all tests share: telling texts, and comparing answers with what is due. */
 final class Check {
     private static int wrong = 0;
     private static int asked = 0;
+    private static int sentences = 0;
+    private static String sentence = "";
+    private static String document = "";
 
     private Check() {
     }
 
-    static void due(String call, long got, long want) {
+    /** The promise, and the words of the document (" .. " where some are left out), that the next answers are due by. */
+    static void by(String promise, String words) {
+        sentences++;
+        sentence = promise + " \"" + words + "\": ";
+        for (String piece : words.split(" \\.\\. ")) {
+            compare("the document has \"" + piece + "\"", documentHas(piece) ? "1" : "0", "1");
+        }
+    }
+
+    private static boolean documentHas(String words) {
+        try {
+            document = document.isEmpty() ? Files.readString(Path.of("../shared/DOC.md")) : document;
+        } catch (IOException e) {
+            return false;
+        }
+        return document.contains(words);
+    }
+
+    private static void compare(String call, String got, String want) {
         asked++;
-        if (got != want) {
+        if (!got.equals(want)) {
             wrong++;
             if (wrong <= 50) {
-                System.out.println(call + " answered " + got + ", due is " + want);
+                System.out.println(sentence + call + " answered " + got + ", due is " + want);
             }
         }
+    }
+
+    static void due(String call, long got, long want) {
+        compare(call, Long.toString(got), Long.toString(want));
     }
 
     /** The answer of a call, or the exception's name if it throws. */
@@ -29,14 +57,11 @@ final class Check {
     }
 
     static void due(String call, LongSupplier got, String want) {
-        asked++;
-        String answer = answerOf(got);
-        if (!answer.equals(want)) {
-            wrong++;
-            if (wrong <= 50) {
-                System.out.println(call + " answered " + answer + ", due is " + want);
-            }
-        }
+        compare(call, answerOf(got), want);
+    }
+
+    static void same(String call, String got, String want) {
+        compare(call, got, want);
     }
 
     static void due(String call, LongSupplier got, long want) {
@@ -83,7 +108,8 @@ final class Check {
     }
 
     static void close() {
-        System.out.println(asked + " answers asked for, " + wrong + " not as due");
+        String by = sentences > 0 ? " by " + sentences + " sentences" : "";
+        System.out.println(asked + " answers asked for" + by + ", " + wrong + " not as due");
         if (wrong != 0) {
             System.exit(1);
         }

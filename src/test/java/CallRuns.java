@@ -4,7 +4,7 @@ import java.util.Random;
 import java.util.TreeMap;
 
 /**
- * Random runs of some 512 calls each, right and wrong ones, with arguments at their bounds and beyond; every answer, and
+ * Random runs of 512 calls each, right and wrong ones, with arguments at their bounds and beyond; every answer, and
  * every exception, is compared with the twin's.
  */
 public final class CallRuns {
@@ -16,8 +16,8 @@ public final class CallRuns {
     private final Twin twin = new Twin();
     private final StringBuilder made = new StringBuilder();
     private String pending = "";
-    /** What a call may ask ahead of it, for its arguments, comes on top: 512 are not gone beyond. */
-    private int left = 504;
+    /** What is asked for the arguments' sake is asked of the twin: so each of these calls is compared. */
+    private int left = 512;
 
     private CallRuns(Random random) {
         this.random = random;
@@ -103,26 +103,23 @@ public final class CallRuns {
         return how == 3 ? most : least + random.nextInt(most - least + 1);
     }
 
+    private int askTwin(String call, int... a) {
+        return Integer.parseInt(twin.answer(call, a));
+    }
+
     private int stateNumber() {
-        int states = x.told(1);
-        left--;
-        twin.answer("told", new int[] {1});
-        return near(0, Math.max(0, states - 1));
+        return near(0, Math.max(0, askTwin("told", 1) - 1));
     }
 
     private int statementNumber() {
-        int statements = x.told(0);
-        left--;
-        return near(0, Math.max(0, statements - 1));
+        return near(0, Math.max(0, askTwin("told", 0) - 1));
     }
 
     /** The first flip behind some STATEMENT, if there is one. */
     private int flipNumber() {
-        int statements = x.told(0);
-        left--;
+        int statements = askTwin("told", 0);
         int k = statements > 0 ? random.nextInt(statements) : 0;
-        for (int tried = 0; tried < 5 && k < statements && x.statement(k, 0) != 2; tried++) {
-            left--;
+        while (k < statements && askTwin("statement", k, 0) != 2) {
             k++;
         }
         return k;

@@ -14,8 +14,9 @@ public final class TextRuns {
         OddsSolver x = new OddsSolver();
         for (int k = 0; k < texts; k++) {
             String text = randomText(random);
+            // a text takes up to 24 calls, and an object serves 512
+            x = k % 20 == 0 ? new OddsSolver() : x;
             if (text.length() <= 400) {
-                x = k % 100 == 0 ? new OddsSolver() : x;
                 compare(x, text);
             }
         }
